@@ -44,6 +44,10 @@ final class ExportsTest {
         checks.equal("shown for purpose 3", rights.export(0, 0), 4);
         Checks.rule(rights, "a !p3");
         checks.equal("absent for the others", rights.export(0, 0), 4);
+        Checks.rule(rights, "a p0");
+        Checks.rule(rights, "a p1");
+        Checks.rule(rights, "a p2");
+        checks.equal("absent for each of the others", rights.export(0, 0), 4);
         Checks.rule(rights, "a p3 k0");
         checks.equal("absent for purpose 3", rights.export(0, 0), 3);
     }

@@ -50,6 +50,7 @@ final class IdleTest {
         checks.equal("s, a f0", with("s", "a f0").idle(0), RecordRights.NONE);
         checks.equal("a f0, s", with("a f0", "s").idle(0), RecordRights.NONE);
         checks.equal("s, a f0, a f0: each could go", with("s", "a f0", "a f0").idle(0), 1);
+        checks.equal("m f0, a f0, a f0", with("m f0", "a f0", "a f0").idle(0), 0);
         checks.equal("s !f0, a f0", with("s !f0", "a f0").idle(0), 1);
         checks.equal("s, a f0 p0, a f0", with("s", "a f0 p0", "a f0").idle(0), 1);
         checks.equal("s, a f0 p0, a f0 p1", with("s", "a f0 p0", "a f0 p1").idle(0), RecordRights.NONE);

@@ -4,6 +4,7 @@ final class LooksTest {
         Checks checks = new Checks();
         conditions(checks);
         lastRuleThatSuits(checks);
+        severalConditions(checks);
         wrongAsks(checks);
         keptLooks(checks);
         looksAreLimited(checks);
@@ -97,6 +98,32 @@ final class LooksTest {
         Checks.rule(rights, "a r1 !r1");
         Checks.rule(rights, "a k0 k1");
         checks.equal("rules that never suit", rights.asks(0, 0, 0, 0, 0), RecordRights.SHOWN);
+    }
+
+    private static void severalConditions(Checks checks) {
+        RecordRights rights = open();
+        Checks.rule(rights, "s r0");
+        checks.equal("no community is no role", rights.asks(0, 0, 0, 0, 0), RecordRights.ABSENT);
+        Checks.rule(rights, "m !f0 !f1 !p0");
+        checks.equal("the first turned one fails", rights.asks(0, 0, 0, 1, 0), RecordRights.ABSENT);
+        checks.equal("the second turned one fails", rights.asks(0, 0, 1, 1, 0), RecordRights.ABSENT);
+        checks.equal("the third turned one fails", rights.asks(0, 0, 2, 0, 0), RecordRights.ABSENT);
+        checks.equal("none fails", rights.asks(0, 0, 2, 1, 0), RecordRights.MASKED);
+        Checks.rule(rights, "m f0");
+        checks.equal("an earlier rule masks yet", rights.asks(0, 0, 2, 1, 0), RecordRights.MASKED);
+        Checks.rule(rights, "s f1");
+        Checks.rule(rights, "s f3");
+        checks.equal("an earlier rule shows yet", rights.asks(0, 0, 1, 1, 0), RecordRights.SHOWN);
+        Checks.rule(rights, "a f4");
+        Checks.rule(rights, "a f5");
+        checks.equal("an earlier rule bars yet", rights.asks(0, 0, 4, 1, 0), RecordRights.ABSENT);
+        RecordRights other = open();
+        Checks.rule(other, "s");
+        Checks.rule(other, "m f0");
+        Checks.rule(other, "m f1");
+        checks.equal("the first of two that mask", other.asks(0, 0, 0, 0, 0), RecordRights.MASKED);
+        checks.equal("the second of two that mask", other.asks(0, 0, 1, 0, 0), RecordRights.MASKED);
+        checks.equal("neither of them", other.asks(0, 0, 2, 0, 0), RecordRights.SHOWN);
     }
 
     private static void wrongAsks(Checks checks) {

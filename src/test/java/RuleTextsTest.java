@@ -38,6 +38,23 @@ final class RuleTextsTest {
         checks.equal("none of the three came", rights.count(0), 38);
         checks.equal("two more than 38", Checks.write(rights, "!g"), 40);
         checks.equal("40 signs make a rule", rights.rule(), 1);
+        for (int shift = 0; shift < 32; shift += 8) {
+            everySignCounts(checks, 1 << shift);
+            everySignCounts(checks, 128 << shift);
+        }
+    }
+
+    private static void everySignCounts(Checks checks, int word) {
+        RecordRights rights = new RecordRights();
+        Checks.write(rights, FORTY.substring(0, 39));
+        checks.badState("two more than 39, ahead", () -> rights.unit(word, word, 0, 0));
+        checks.badState("two more than 39, behind", () -> rights.unit(0, 0, word, word));
+        checks.equal("one more than 39", rights.unit(0, 0, word, 0), 40);
+        checks.badState("one more than 40, as a", () -> rights.unit(word, 0, 0, 0));
+        checks.badState("one more than 40, as b", () -> rights.unit(0, word, 0, 0));
+        checks.badState("one more than 40, as c", () -> rights.unit(0, 0, word, 0));
+        checks.badState("one more than 40, as d", () -> rights.unit(0, 0, 0, word));
+        checks.equal("none of them came", rights.count(0), 40);
     }
 
     private static void padKeepsOrder(Checks checks) {
