@@ -8,12 +8,32 @@ final class Checks {
 
     private int done = 0;
     private int wrong = 0;
+    private String under = "";
+
+    /** One test of one sentence of the document: what goes wrong in it is told under that sentence. */
+    void sentence(String text, Call test) {
+        int before = done;
+        under = "[" + text + "] ";
+        try {
+            test.run();
+        } catch (RuntimeException e) {
+            tell("ended with " + e);
+        }
+        if (done == before) {
+            tell("nothing was checked");
+        }
+        under = "";
+    }
+
+    private void tell(String what) {
+        wrong++;
+        System.out.println(under + what);
+    }
 
     void equal(String call, long got, long due) {
         done++;
         if (got != due) {
-            wrong++;
-            System.out.println(call + " answered " + got + ", due is " + due);
+            tell(call + " answered " + got + ", due is " + due);
         }
     }
 
@@ -37,7 +57,7 @@ final class Checks {
         thrown(what, call, IllegalStateException.class);
     }
 
-    private void thrown(String what, Call call, Class<?> due) {
+    void thrown(String what, Call call, Class<?> due) {
         done++;
         Class<?> got = null;
         try {
@@ -46,8 +66,7 @@ final class Checks {
             got = e.getClass();
         }
         if (got != due) {
-            wrong++;
-            System.out.println(what + " threw " + got + ", due is " + due);
+            tell(what + " threw " + got + ", due is " + due);
         }
     }
 
@@ -70,6 +89,29 @@ final class Checks {
     static int rule(RecordRights rights, String text) {
         write(rights, text);
         return rights.rule();
+    }
+
+    /** Persons without roles, records of kind 0 and of no community, and rules. */
+    static RecordRights with(int persons, int records, String... texts) {
+        RecordRights rights = new RecordRights();
+        for (int k = 0; k < persons; k++) {
+            rights.person(0);
+        }
+        for (int k = 0; k < records; k++) {
+            rights.record(0, RecordRights.NONE);
+        }
+        for (String text : texts) {
+            rule(rights, text);
+        }
+        return rights;
+    }
+
+    /** Numbers below and above a range, near to it and as far as an int goes. */
+    static int[] outside(int low, int high) {
+        return new int[] {
+            Integer.MIN_VALUE, Integer.MIN_VALUE + high, low - 1, high + 1, high + 256, Integer.MAX_VALUE - high,
+            Integer.MAX_VALUE,
+        };
     }
 
     static int word(String text, int from) {
