@@ -26,22 +26,27 @@ final class RefusedCallsTest {
 
     public static void main(String[] args) {
         RefusedCallsTest test = new RefusedCallsTest();
-        test.refusedBoth();
-        test.fill();
-        test.refusedBoth();
+        test.refusedEver();
+        test.fill(19);
+        test.refusedEver();
         test.refusedFull();
+        test.fill(20);
+        test.refusedEver();
+        test.refusedFull();
+        test.refused("rule, the 21st", STATE, x -> x.rule());
         test.checks.end();
     }
 
-    private void fill() {
+    /** With 19 rules there is room for one more, by which the pad's signs can be told. */
+    private void fill(int manyRules) {
         full = true;
         persons = 12;
         records = 16;
-        rules = 20;
+        rules = manyRules;
         looks = 100;
     }
 
-    private void refusedBoth() {
+    private void refusedEver() {
         checks.sentence("the object is made as told", this::madeAsTold);
         rulesAndPersons();
         valuesAndEmbargoes();
@@ -135,7 +140,6 @@ final class RefusedCallsTest {
 
     private void refusedFull() {
         refused("unit, one sign too many", STATE, x -> x.unit(0, 0, 0, 's'));
-        refused("rule, the 21st", STATE, x -> x.rule());
         refused("person, the 13th", STATE, x -> x.person(255));
         refused("record, the 17th", STATE, x -> x.record(3, 7));
         refused("agreement, the 41st", STATE, x -> x.agreement(1, 1, 0, LAST_DAY));
@@ -144,7 +148,7 @@ final class RefusedCallsTest {
     }
 
     private void refused(String what, Class<?> due, Consumer<RecordRights> call) {
-        String named = what + (full ? ", full" : ", begun");
+        String named = what + (full ? ", full, rules: " : ", begun, rules: ") + rules;
         checks.sentence("Such a call changes nothing: " + named, () -> {
             for (int part = 0; part < 5; part++) {
                 RecordRights spared = make();
@@ -166,7 +170,7 @@ final class RefusedCallsTest {
 
     private void madeAsTold() {
         RecordRights rights = make();
-        int[] due = {full ? 40 : 26, rules, full ? 18 : 3, persons, records, looks, full ? 60 : 3};
+        int[] due = {full ? 40 : 26, rules, full ? rules - 2 : 3, persons, records, looks, full ? 60 : 3};
         for (int what = 0; what < due.length; what++) {
             checks.equal("count(" + what + ")", rights.count(what), due[what]);
         }
@@ -203,9 +207,9 @@ final class RefusedCallsTest {
         return rights;
     }
 
-    private static RecordRights makeFull() {
+    private RecordRights makeFull() {
         RecordRights rights = new RecordRights();
-        for (int k = 0; k < 20; k++) {
+        for (int k = 0; k < rules; k++) {
             Checks.rule(rights, k < 2 ? "s" : k % 5 == 4 ? "a g k" + k % 4 : "m r" + k % 8 + " f" + k % 6);
         }
         for (int k = 0; k < 16; k++) {
@@ -227,7 +231,7 @@ final class RefusedCallsTest {
         }
         rights.embargo(1, DAY);
         rights.drop(1);
-        rights.drop(19);
+        rights.drop(rules - 1);
         rights.export(1, DAY);
         Checks.write(rights, "s r0 k0 f0 p0 c0 !r1 !k1 !f1 !p1 !c1 g g");
         return rights;
@@ -264,18 +268,18 @@ final class RefusedCallsTest {
     }
 
     private static void looksAndExport(List<Long> answers, RecordRights rights) {
+        for (int k = 0; k < 16; k++) {
+            int at = k;
+            tell(answers, rights, x -> x.exported(at));
+            tell(answers, rights, x -> x.looked(at, 0));
+            tell(answers, rights, x -> x.looked(1, at));
+        }
         int[] looks = {0, 1, 2, 3, 98, 99, 100};
         for (int look : looks) {
             for (int what = 0; what < 6; what++) {
                 int at = what;
                 tell(answers, rights, x -> x.look(look, at));
             }
-        }
-        for (int k = 0; k < 16; k++) {
-            int at = k;
-            tell(answers, rights, x -> x.exported(at));
-            tell(answers, rights, x -> x.looked(at, 0));
-            tell(answers, rights, x -> x.looked(1, at));
         }
     }
 
@@ -318,12 +322,12 @@ final class RefusedCallsTest {
 
     /** The pad is whole only if its signs are as they were; then there is room for as many as before. */
     private static void roomAndPad(List<Long> answers, RecordRights rights) {
+        tell(answers, rights, x -> x.count(0) < 40 ? x.unit('g', 0, 0, 0) : 40);
+        tell(answers, rights, RecordRights::rule);
+        tell(answers, rights, x -> x.count(0));
         tell(answers, rights, x -> x.agreement(0, 0, 0, 0));
         tell(answers, rights, x -> x.person(0));
         tell(answers, rights, x -> x.record(0, 0));
-        tell(answers, rights, x -> x.unit('g', 0, 0, 0));
-        tell(answers, rights, RecordRights::rule);
-        tell(answers, rights, x -> x.count(0));
         for (int k = 0; k < 20; k++) {
             tell(answers, rights, x -> x.unit('s', 0, 0, 0));
             tell(answers, rights, RecordRights::rule);
