@@ -12,6 +12,9 @@ final class RandomRunsTest {
         100000, 100001, Integer.MAX_VALUE,
     };
 
+    /** Cases of step(): agreement, request, asks and asks again. */
+    private static final int[] FILLERS = {8, 15, 21, 21};
+
     private final Random random;
     private final RecordRights rights = new RecordRights();
     private final Model model = new Model();
@@ -20,6 +23,7 @@ final class RandomRunsTest {
     private final int persons;
     private final int records;
     private final int wrongPercent;
+    private final boolean filling;
     private int day = 50;
     private int done = 0;
 
@@ -30,6 +34,7 @@ final class RandomRunsTest {
         persons = 1 + random.nextInt(run % 4 == 0 ? 12 : 3);
         records = 1 + random.nextInt(run % 4 == 0 ? 16 : 4);
         wrongPercent = run % 3 * 4;
+        filling = run % 5 == 4;
     }
 
     public static void main(String[] args) {
@@ -47,6 +52,9 @@ final class RandomRunsTest {
         for (int k = 0; k < records; k++) {
             call("record", random.nextInt(4), random.nextInt(9) - 1);
         }
+        if (filling) {
+            openWide();
+        }
         int rules = random.nextInt(12);
         for (int k = 0; k < rules; k++) {
             tell();
@@ -56,12 +64,21 @@ final class RandomRunsTest {
         }
     }
 
+    /** What is kept comes to its bounds only where little is absent and no limit is low. */
+    private void openWide() {
+        call("unit", 's', 0, 0, 0);
+        call("rule");
+        for (int k = 0; k < persons; k++) {
+            call("limit", k, 60);
+        }
+    }
+
     private void step() {
         if (random.nextInt(100) < 5) {
             day = random.nextInt(100) < 90 ? Math.max(0, day + random.nextInt(41) - 15) : random.nextInt(100001);
             day = Math.min(day, 100000);
         }
-        switch (random.nextInt(24)) {
+        switch (filling && random.nextInt(3) > 0 ? FILLERS[random.nextInt(FILLERS.length)] : random.nextInt(24)) {
             case 0: tell(); break;
             case 1: call("unit", random.nextInt(), random.nextInt(3) == 0 ? random.nextInt() : 0, 0, 0); break;
             case 2: call("rule"); break;
@@ -138,32 +155,9 @@ final class RandomRunsTest {
 
     private String answer(String name, long[] x, boolean ofModel) {
         try {
-            return Long.toString(ofModel ? model.call(name, x) : real(name, x));
+            return Long.toString(ofModel ? model.call(name, x) : Calls.call(rights, name, x));
         } catch (RuntimeException e) {
             return e.getClass().getName();
-        }
-    }
-
-    private long real(String name, long[] x) {
-        switch (name) {
-            case "unit": return rights.unit((int) x[0], (int) x[1], (int) x[2], (int) x[3]);
-            case "rule": return rights.rule();
-            case "drop": return rights.drop((int) x[0]) ? 1 : 0;
-            case "person": return rights.person((int) x[0]);
-            case "record": return rights.record((int) x[0], (int) x[1]);
-            case "value": return rights.value((int) x[0], (int) x[1], x[2]);
-            case "embargo": return rights.embargo((int) x[0], (int) x[1]);
-            case "agreement": return rights.agreement((int) x[0], (int) x[1], (int) x[2], (int) x[3]);
-            case "asks": return rights.asks((int) x[0], (int) x[1], (int) x[2], (int) x[3], (int) x[4]);
-            case "masked": return rights.masked((int) x[0], (int) x[1]);
-            case "look": return rights.look((int) x[0], (int) x[1]);
-            case "looked": return rights.looked((int) x[0], (int) x[1]);
-            case "export": return rights.export((int) x[0], (int) x[1]);
-            case "exported": return rights.exported((int) x[0]);
-            case "request": return rights.request((int) x[0], (int) x[1], (int) x[2]);
-            case "limit": return rights.limit((int) x[0], (int) x[1]);
-            case "idle": return rights.idle((int) x[0]);
-            default: return rights.count((int) x[0]);
         }
     }
 }
